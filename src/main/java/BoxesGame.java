@@ -760,7 +760,7 @@ public final class BoxesGame {
         private final long[] openAround = new long[MAX_BOXES];
         private final int[] numbers = new int[MAX_BOXES];
         private final int[] sizes = new int[MAX_BOXES];
-        private final int[] openBoxes = new int[MAX_BOXES];
+        private final int[] opens = new int[MAX_BOXES];
         private final int[] discounts = new int[MAX_BOXES];
         private final long[] lines = new long[MAX_BOXES];
         private final long[] sharedLines = new long[MAX_BOXES];
@@ -816,7 +816,7 @@ public final class BoxesGame {
             int string = amount;
             amount++;
             Rows.put(sizes, string, 0);
-            Rows.put(openBoxes, string, 0);
+            Rows.put(opens, string, 0);
             Rows.put(lines, string, 0L);
             Rows.put(sharedLines, string, 0L);
             join(start, string);
@@ -839,21 +839,21 @@ public final class BoxesGame {
             Rows.put(numbers, box, string);
             Rows.put(sizes, string, Rows.at(sizes, string) + 1);
             if (Long.bitCount(open) == 1) {
-                Rows.put(openBoxes, string, Rows.at(openBoxes, string) + 1);
+                Rows.put(opens, string, 1);
             }
             Rows.put(sharedLines, string, Rows.at(sharedLines, string) | (open & before));
             Rows.put(lines, string, before | open);
         }
 
         private int discountOf(int string) {
-            if (Rows.at(openBoxes, string) == 0 && Rows.at(lines, string) == Rows.at(sharedLines, string)) {
+            if (Rows.at(opens, string) == 0 && Rows.at(lines, string) == Rows.at(sharedLines, string)) {
                 return LOOP;
             }
             return Rows.at(sizes, string) >= 3 ? LONG_CHAIN : SHORT_CHAIN;
         }
 
         private boolean isOpen(int string) {
-            return Rows.at(openBoxes, string) > 0;
+            return Rows.at(opens, string) == 1;
         }
 
         int numberAt(int box) {
@@ -864,7 +864,7 @@ public final class BoxesGame {
             switch (what) {
                 case 0: return Rows.at(sizes, string);
                 case 1: return Rows.at(discounts, string) == LOOP ? 1 : 0;
-                case 2: return isOpen(string) ? 1 : 0;
+                case 2: return Rows.at(opens, string);
                 case 3: return Long.bitCount(Rows.at(lines, string));
                 default: return Long.bitCount(Rows.at(lines, string) & thickLines);
             }

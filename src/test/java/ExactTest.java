@@ -62,6 +62,12 @@ public final class ExactTest {
         opened.undo();
         opened.undo();
         Check.same("P23 after undo", opened.outcome(), 4);
+        BoxesGame box = Games.on(1, 1, 0);
+        Check.same("P23 one line drawn", box.outcome(), 1);
+        box.undo();
+        Check.same("P23 one line undone", box.outcome(), -1);
+        box.draw(3);
+        Check.same("P23 another line drawn", box.outcome(), 1);
     }
 
     private static void outcomeIsGreatestWorth() {

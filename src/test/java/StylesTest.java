@@ -21,6 +21,7 @@ public final class StylesTest {
         advises("lowest of equal prices", Games.on(3, 2, 0, 1, 2, 3, 4, 5, 6, 7, 8), 9, 9);
         // a column of three costs 3, the box at the lower right costs 1
         advises("lowest price", Games.allBut(2, 3, 0, 2, 4, 6, 7, 16), 7, 7);
+        advises("line 0 has the lowest price", Games.allBut(3, 2, 0, 9, 13, 14, 15, 16), 0, 0);
         for (int style = 0; style <= 2; style++) {
             Check.same("P28 no open line", Games.allBut(3, 3).advice(style), -1);
         }
@@ -28,6 +29,9 @@ public final class StylesTest {
 
     private static void adviceKeeping() {
         advises("keeping", twoAndFour(), 15, 16);
+        advises("keeping in the corner", Games.allBut(4, 2, 12, 13, 17, 18, 19, 20, 21), 13, 12);
+        advises("keeping by line 0", Games.allBut(4, 2, 0, 13, 17, 18, 19, 20, 21), 13, 0);
+        advises("taking by line 0", Games.allBut(4, 2, 0, 16, 17, 18, 19, 20, 21), 0, 0);
         advises("keeping with 5 boxes left", Games.allBut(3, 2, 11, 12, 13, 14, 15, 16), 11, 12);
         advises("taking with 4 boxes left", Games.allBut(2, 2, 7, 8, 9, 10, 11), 7, 7);
         advises("taking from a run of 3", Games.allBut(4, 2, 14, 15, 16, 17, 18, 19, 20, 21), 14, 14);
@@ -35,6 +39,8 @@ public final class StylesTest {
         advises("taking two single boxes", Games.allBut(4, 2, 12, 16, 17, 18, 19, 20, 21), 12, 12);
         // the two boxes are completed at once already, so every other line is keeping
         advises("keeping elsewhere", Games.allBut(4, 2, 14, 17, 18, 19, 20, 21), 14, 17);
+        // line 4 completes boxes 0 and 4; line 1 opens box 1, which stands between them
+        advises("keeping beside another taking line", Games.allBut(4, 2, 1, 4, 14, 15, 16), 4, 1);
         // with h02 and h12 open the lower row has safe lines
         advises("taking while a line is safe", Games.allBut(4, 2, 15, 16, 17, 18, 19, 20, 21, 8, 9), 15, 15);
     }
@@ -110,14 +116,18 @@ public final class StylesTest {
 
     private static void playoutLikeFollow() {
         for (int style = 0; style <= 2; style++) {
-            BoxesGame game = Games.on(4, 4, 5, 17, 22);
-            BoxesGame followed = Games.on(4, 4, 5, 17, 22);
-            followed.follow(style, 40);
-            int difference = followed.score(0) - followed.score(1);
-            Check.same("P29 by style " + style, game.playout(style, style, 0), difference);
-            Check.same("P29 last line by style " + style, game.playout(style, style, 2), followed.drawn(39));
-            Check.same("P29 nothing is drawn", game.count(3), 3);
+            likeFollow(style, Games.on(4, 4, 5, 17, 22), Games.on(4, 4, 5, 17, 22));
+            likeFollow(style, Games.on(4, 4), Games.on(4, 4));
         }
+    }
+
+    private static void likeFollow(int style, BoxesGame game, BoxesGame followed) {
+        int before = game.count(3);
+        followed.follow(style, 40);
+        int difference = followed.score(0) - followed.score(1);
+        Check.same("P29 by style " + style, game.playout(style, style, 0), difference);
+        Check.same("P29 last line by style " + style, game.playout(style, style, 2), followed.drawn(39));
+        Check.same("P29 nothing is drawn", game.count(3), before);
     }
 
     private static void playoutWrong() {
@@ -147,6 +157,9 @@ public final class StylesTest {
                 game.meanDifference(call[0], call[1]), (Object) reference.meanDifference(call[0], call[1]));
             Check.same("P30 changes nothing", game.digest(), before);
         }
+        ReferenceGame large = new ReferenceGame();
+        large.begin(4, 4);
+        Check.same("P30 new 4 x 4", Games.on(4, 4).meanDifference(20, 99), (Object) large.meanDifference(20, 99));
         BoxesGame game = twoAndFour();
         int[][] wrong = {{0, 1}, {21, 1}, {-1, 1}, {1, -1}, {0, -1}, {1, Integer.MIN_VALUE}, {Integer.MAX_VALUE, 1}};
         for (int[] call : wrong) {
