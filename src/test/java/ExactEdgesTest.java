@@ -125,6 +125,26 @@ public final class ExactEdgesTest {
         }
     }
 
+    /** Another position with as many open lines, after lines were undone and others drawn */
+    private static void otherTwelve() {
+        BoxesGame game = Games.on(3, 2, 0, 1, 2, 3, 4);
+        Check.same("P23 outcome() of the first twelve", game.outcome(), plain(game).outcome());
+        for (int i = 0; i < 5; i++) {
+            game.undo();
+        }
+        for (int line : new int[] {16, 9, 14, 5, 11}) {
+            game.draw(line);
+        }
+        Check.same("P23 outcome() of other twelve", game.outcome(), plain(game).outcome());
+        Check.same("P24 worth(0) of other twelve", game.worth(0), plain(game).worth(0));
+        for (int i = 0; i < 8; i++) {
+            game.follow(0, 1);
+        }
+        Check.same("P23 outcome() of four of these", game.outcome(), plain(game).outcome());
+        game.begin(2, 2);
+        Check.same("P23 outcome() of the twelve of another board", game.outcome(), plain(game).outcome());
+    }
+
     public static void main(String[] args) {
         outcomeOfNone();
         oneOpenLine();
@@ -132,6 +152,7 @@ public final class ExactEdgesTest {
         twelveAndThirteenAtFirst();
         lines();
         drawnLines();
+        otherTwelve();
         changeNothing();
         Check.end();
     }

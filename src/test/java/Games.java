@@ -19,7 +19,8 @@ final class Games {
     /** All lines are drawn, in ascending order, but these. */
     static BoxesGame allBut(int columns, int rows, int... open) {
         BoxesGame game = on(columns, rows);
-        for (int line = 0; line < game.count(2); line++) {
+        int lines = game.count(2);
+        for (int line = 0; line < lines; line++) {
             boolean stays = false;
             for (int other : open) {
                 stays |= other == line;

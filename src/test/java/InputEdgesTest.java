@@ -77,18 +77,17 @@ public final class InputEdgesTest {
 
     /** The same, with the error at each index. */
     private static void oneError() {
-        BoxesGame game = new BoxesGame();
         for (int at = 0; at < 60; at++) {
-            errorAt(game, Games.text(at) + "~", at);
-            errorAt(game, Games.text(at) + "~" + Games.text(60).substring(at + 1), at);
+            errorAt(new BoxesGame(), Games.text(at) + "~", at);
+            errorAt(new BoxesGame(), Games.text(at) + "~" + Games.text(60).substring(at + 1), at);
         }
     }
 
     /** "the first digit if no line has this x" */
     private static void firstDigit() {
         for (int[] board : Games.BOARDS) {
-            BoxesGame game = Games.on(board[0], board[1]);
             for (int x = 0; x <= 9; x++) {
+                BoxesGame game = Games.on(board[0], board[1]);
                 errorAt(game, "h" + x, x < board[0] ? 2 : 1);
                 errorAt(game, "v" + x, x <= board[0] ? 2 : 1);
                 errorAt(game, "v00,h" + x + "0", x < board[0] ? 7 : 5);
@@ -100,8 +99,8 @@ public final class InputEdgesTest {
     /** "the second digit if no line has this x and y" */
     private static void secondDigit() {
         for (int[] board : Games.BOARDS) {
-            BoxesGame game = Games.on(board[0], board[1]);
             for (int y = 0; y <= 9; y++) {
+                BoxesGame game = Games.on(board[0], board[1]);
                 errorAt(game, "h0" + y, y <= board[1] ? 3 : 2);
                 errorAt(game, "h" + (board[0] - 1) + y, y <= board[1] ? 3 : 2);
                 errorAt(game, "v0" + y, y < board[1] ? 3 : 2);
@@ -113,12 +112,11 @@ public final class InputEdgesTest {
     /** "a character that these rules do not allow at its place is a syntax error" */
     private static void eachCharacterAtEachPlace() {
         String[] allowed = {"hv", "012", "01", ","};
-        BoxesGame game = Games.on(2, 2);
         for (int place = 0; place < 8; place++) {
             for (int code = 32; code <= 126; code++) {
                 boolean good = allowed[place % 4].indexOf(code) >= 0;
                 // before the digits stands a v, which has x 0 to 2 and y 0 to 1
-                errorAt(game, "v00,v00,".substring(0, place) + (char) code, good ? place + 1 : place);
+                errorAt(new BoxesGame(), "v00,v00,".substring(0, place) + (char) code, good ? place + 1 : place);
             }
         }
     }

@@ -313,11 +313,9 @@ public final class PositionEdgesTest {
             Check.same("P18 nothing is drawn", game.count(3), 0);
             for (int move = 0; move < safe; move++) {
                 Check.same("P18 safe moves left", game.safeMoves(), safe - move);
-                int line = 0;
-                while (game.kind(line) != 2) {
-                    line++;
-                }
-                game.draw(line);
+                // the greedy style chooses it as long as no line is taking
+                Check.same("P18 the next one is safe", game.kind(game.advice(0)), 2);
+                game.draw(game.advice(0));
             }
             Check.same("P18 no safe line", game.count(7), 0);
             Check.same("P18 no safe moves", game.safeMoves(), 0);

@@ -315,6 +315,27 @@ public final class StringsEdgesTest {
         Check.same("P22 prediction() of eleven again", Check.answer(game::prediction), "throws IllegalStateException");
     }
 
+    /** "IndexOutOfBoundsException if there is no such string": of those that are gone nothing is left either. */
+    private static void goneStrings() {
+        BoxesGame game = Games.on(3, 1, 0, 3, 2, 5);
+        properties("beside a thick box", game, 1, 1, 0, 0, 2, 1);
+        game.draw(1);
+        properties("beside a thick box still", game, 1, 1, 0, 0, 2, 1);
+        game.draw(4);
+        properties("beside thin boxes", game, 0, 3, 0, 0, 4, 0);
+        controls("of one string that was two", game, 1, 0, 0, 1, -1, 1);
+        BoxesGame two = Games.on(3, 2, 0, 1, 2, 3, 4, 5, 6, 7, 8, 13);
+        controls("of a closed and an open chain", two, 2, 0, 0, 0, -2, 0);
+        for (int i = 0; i < 3; i++) {
+            two.follow(0, 1);
+        }
+        controls("of the closed chain alone", two, 1, 0, 0, 1, -1, 1);
+        Check.same("P10 one string is left", two.count(10), 1);
+        two.follow(0, 40);
+        controls("when that is gone too", two, 0, 0, 0, 1, 0, 0);
+        predicts("what is gone", two, 0);
+    }
+
     public static void main(String[] args) {
         thin();
         hangTogether();
@@ -333,6 +354,7 @@ public final class StringsEdgesTest {
         predictionOfChains();
         predictionOfLoops();
         predictionOfMany();
+        goneStrings();
         Check.end();
     }
 }

@@ -98,6 +98,7 @@ public final class StylesEdgesTest {
     private static void exactWithTwelve() {
         Check.same("P10 twelve open lines", twelve().count(3), 28);
         advises("with 12 open lines", twelve(), 23, 24, 23);
+        advises("with 11 open lines", Games.allBut(4, 2, 3, 4, 8, 9, 10, 11, 12, 14, 16, 19, 21), 14, 3, 14);
         Check.same("P10 thirteen open lines", thirteen().count(3), 27);
         advises("with 13 open lines", thirteen(), 23, 24, 24);
     }
@@ -204,20 +205,26 @@ public final class StylesEdgesTest {
         return x.divide(BigInteger.valueOf(65536)).mod(BigInteger.valueOf(n)).intValueExact();
     }
 
+    private static List<Integer> openLines(BoxesGame game) {
+        List<Integer> open = new ArrayList<>();
+        int lines = game.count(2);
+        for (int line = 0; line < lines; line++) {
+            if (game.kind(line) != 0) {
+                open.add(line);
+            }
+        }
+        return open;
+    }
+
     private static double meanByHand(Twins.Maker maker, int games, int seed) {
         BigInteger x = BigInteger.valueOf(seed);
         double sum = 0;
         for (int played = 0; played < games; played++) {
             BoxesGame game = maker.make();
-            while (game.count(3) < game.count(2)) {
-                List<Integer> open = new ArrayList<>();
-                for (int line = 0; line < game.count(2); line++) {
-                    if (game.kind(line) != 0) {
-                        open.add(line);
-                    }
-                }
+            List<Integer> open = openLines(game);
+            while (!open.isEmpty()) {
                 x = next(x);
-                game.draw(open.get(below(x, open.size())));
+                game.draw(open.remove(below(x, open.size())));
             }
             sum += game.score(0) - game.score(1);
         }

@@ -46,22 +46,25 @@ final class Twins {
     /** What the calls that change nothing answer. They are few enough for the document's 512 calls. */
     private static List<String> answersOf(BoxesGame game) {
         List<String> answers = new ArrayList<>();
+        int lines = game.count(2);
+        int moves = game.count(3);
+        int boxes = game.count(0) * game.count(1);
         for (int what = 0; what <= 10; what++) {
             int i = what;
             note(answers, "count(" + i + ")", () -> game.count(i));
         }
         note(answers, "score(0)", () -> game.score(0));
         note(answers, "score(1)", () -> game.score(1));
-        for (int line = 0; line < game.count(2); line++) {
+        for (int line = 0; line < lines; line++) {
             int i = line;
             note(answers, "kind(" + i + ")", () -> game.kind(i));
             note(answers, "price(" + i + ")", () -> game.price(i));
         }
-        for (int move = 0; move < game.count(3); move++) {
+        for (int move = 0; move < moves; move++) {
             int i = move;
             note(answers, "drawn(" + i + ")", () -> game.drawn(i));
         }
-        for (int box = 0; box < game.count(0) * game.count(1); box++) {
+        for (int box = 0; box < boxes; box++) {
             int i = box;
             note(answers, "owner(" + i + ")", () -> game.owner(i));
             note(answers, "stringOf(" + i + ")", () -> game.stringOf(i));
@@ -101,7 +104,8 @@ final class Twins {
         note(answers, "follow(2,3)", () -> game.follow(2, 3));
         note(answers, "digest() after follow(2,3)", game::digest);
         note(answers, "clearInput()", game::clearInput);
-        for (int i = 0; i < 40 && game.count(3) > 0; i++) {
+        int moves = game.count(3);
+        for (int i = 0; i < moves; i++) {
             note(answers, "undo()", game::undo);
             note(answers, "count(5)", () -> game.count(5));
             note(answers, "count(4)", () -> game.count(4));
