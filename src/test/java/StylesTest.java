@@ -176,17 +176,21 @@ public final class StylesTest {
         }
         values.add((long) game.score(0));
         values.add((long) game.score(1));
-        for (int line = 0; line < game.count(2); line++) {
+        int lines = game.count(2);
+        for (int line = 0; line < lines; line++) {
             values.add((long) game.kind(line));
         }
-        for (int move = 0; move < game.count(3); move++) {
+        int moves = game.count(3);
+        for (int move = 0; move < moves; move++) {
             values.add((long) game.drawn(move));
         }
-        for (int box = 0; box < game.count(0) * game.count(1); box++) {
+        int boxes = game.count(0) * game.count(1);
+        for (int box = 0; box < boxes; box++) {
             values.add((long) game.owner(box));
             values.add((long) game.stringOf(box));
         }
-        for (int string = 0; string < game.count(10); string++) {
+        int strings = game.count(10);
+        for (int string = 0; string < strings; string++) {
             for (int what = 0; what <= 4; what++) {
                 values.add((long) game.string(string, what));
             }
@@ -194,14 +198,14 @@ public final class StylesTest {
         for (int what = 0; what <= 5; what++) {
             values.add((long) game.control(what));
         }
-        if (game.count(10) <= 10) {
+        if (strings <= 10) {
             values.add((long) game.prediction());
         }
         values.add(game.canonical());
         values.add((long) game.symmetries());
         values.add((long) game.advice(0));
         values.add((long) game.advice(1));
-        if (game.count(2) - game.count(3) <= 8) {
+        if (lines - moves <= 8) {
             values.add((long) game.outcome());
         }
         values.add((long) buffer.length());
@@ -225,8 +229,9 @@ public final class StylesTest {
             Games.allBut(4, 4, 0, 2, 3, 16, 17, 18, 19, 20, 24, 25, 29, 30, 34, 35, 39),
             Games.allBut(4, 4, 0, 3, 16, 17, 18, 19, 20, 24, 25, 29, 30, 34, 35, 39)};
         for (int i = 0; i < games.length; i++) {
-            Check.same("P31 digest() of game " + i, games[i].digest(), hashOf(games[i], ""));
-            Check.same("P31 digest() again of game " + i, games[i].digest(), hashOf(games[i], ""));
+            long due = hashOf(games[i], "");
+            Check.same("P31 digest() of game " + i, games[i].digest(), due);
+            Check.same("P31 digest() again of game " + i, games[i].digest(), due);
             Check.same("P31 with a buffer, game " + i, digestAfter(games[i], "h00,~ "), hashOf(games[i], "h00,~ "));
         }
         BoxesGame game = Games.on(2, 2, 0, 5);
