@@ -145,6 +145,21 @@ public final class ExactEdgesTest {
         Check.same("P23 outcome() of the twelve of another board", game.outcome(), plain(game).outcome());
     }
 
+    /** Another position, of whose open lines none was open in the one that was solved before */
+    private static void noneOfTheSame() {
+        BoxesGame game = Games.allBut(3, 2, 0, 1, 2, 9, 10, 11);
+        Check.same("P23 outcome() of six", game.outcome(), plain(game).outcome());
+        for (int i = 0; i < 11; i++) {
+            game.undo();
+        }
+        for (int line = 0; line < 12; line++) {
+            game.draw(line);
+        }
+        Check.same("P23 outcome() of five others", game.outcome(), plain(game).outcome());
+        Check.same("P24 worth(16) of five others", game.worth(16), plain(game).worth(16));
+        Check.same("P28 advice(2) of five others", game.advice(2), plain(game).advice(2));
+    }
+
     public static void main(String[] args) {
         outcomeOfNone();
         oneOpenLine();
@@ -153,6 +168,7 @@ public final class ExactEdgesTest {
         lines();
         drawnLines();
         otherTwelve();
+        noneOfTheSame();
         changeNothing();
         Check.end();
     }
