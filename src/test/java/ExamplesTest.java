@@ -1,5 +1,9 @@
-/** The examples 1 to 4 of the document. */
+/** The examples 1 to 4 of the document: each on a new object, and no call but those of the example. */
 public final class ExamplesTest {
+    private static void raises(String what, String due, Check.Call call) {
+        Check.same(what, Check.answer(call), "throws " + due);
+    }
+
     private static void singleBox() {
         BoxesGame game = new BoxesGame();
         Check.same("1: begin(1, 1)", game.begin(1, 1), 4);
@@ -29,15 +33,15 @@ public final class ExamplesTest {
     private static void linesErrorsAndSymmetry() {
         BoxesGame game = new BoxesGame();
         Check.same("3: line(true, 2, 1)", game.line(true, 2, 1), 11);
-        Check.raises(game, "3: line(true, 2, 2)", IndexOutOfBoundsException.class, () -> game.line(true, 2, 2));
-        Check.raises(game, "3: draw(12)", IndexOutOfBoundsException.class, () -> game.draw(12));
+        raises("3: line(true, 2, 2)", "IndexOutOfBoundsException", () -> game.line(true, 2, 2));
+        raises("3: draw(12)", "IndexOutOfBoundsException", () -> game.draw(12));
         Check.same("3: draw(0)", game.draw(0), 0);
-        Check.raises(game, "3: draw(0) again", IllegalStateException.class, () -> game.draw(0));
+        raises("3: draw(0) again", "IllegalStateException", () -> game.draw(0));
         Check.same("3: symmetries()", game.symmetries(), 1);
         Check.same("3: followers()", game.followers(), 10);
         Check.same("3: canonical()", game.canonical(), 1);
         Check.same("3: undo()", game.undo(), 0);
-        Check.raises(game, "3: undo() again", IllegalStateException.class, () -> game.undo());
+        raises("3: undo() again", "IllegalStateException", () -> game.undo());
     }
 
     private static void linesAsText() {
@@ -47,7 +51,7 @@ public final class ExamplesTest {
             Check.same("4: append(" + codes[i] + ")", game.append(codes[i]), i + 1);
         }
         Check.same("4: firstError()", game.firstError(), 6);
-        Check.raises(game, "4: load()", IllegalStateException.class, () -> game.load());
+        raises("4: load()", "IllegalStateException", () -> game.load());
         Check.same("4: append(48)", game.append(48), 7);
         Check.same("4: load() again", game.load(), 0);
         Check.same("4: count(3)", game.count(3), 2);
